@@ -506,10 +506,15 @@ public final class ManyGoods {
             for (int i = 0; i < net.arcs; i++) {
                 int next = net.heads[i];
                 if (net.tails[i] == at && (seen >> next & 1) == 0 && isWorthwhile(g, next, cost + net.costs[i])) {
-                    trail[steps] = i;
-                    walk(net, g, next, seen | 1 << next, steps + 1, cost + net.costs[i]);
+                    follow(net, g, i, seen, steps, cost);
                 }
             }
+        }
+
+        private void follow(Net net, int g, int arc, int seen, int steps, int cost) {
+            int next = net.heads[arc];
+            trail[steps] = arc;
+            walk(net, g, next, seen | 1 << next, steps + 1, cost + net.costs[arc]);
         }
 
         private boolean isWorthwhile(int g, int next, int cost) {
@@ -612,16 +617,24 @@ public final class ManyGoods {
                 return;
             }
             WayList list = table.lists[g];
-            int demand = net.demands[g];
             for (int k = 0; k < list.size; k++) {
-                Way way = list.items[k];
-                if (loads.leavesRoomFor(way, demand, limits)) {
-                    chosen[g] = k;
-                    loads.add(way, demand);
-                    choose(net, table, g + 1, worth + net.worths[g], cost + demand * way.cost);
-                    loads.add(way, -demand);
+                if (loads.leavesRoomFor(list.items[k], net.demands[g], limits)) {
+                    serve(net, table, g, k, worth, cost);
                 }
             }
+            leaveOut(net, table, g, worth, cost);
+        }
+
+        private void serve(Net net, WayTable table, int g, int k, int worth, int cost) {
+            Way way = table.lists[g].items[k];
+            int demand = net.demands[g];
+            chosen[g] = k;
+            loads.add(way, demand);
+            choose(net, table, g + 1, worth + net.worths[g], cost + demand * way.cost);
+            loads.add(way, -demand);
+        }
+
+        private void leaveOut(Net net, WayTable table, int g, int worth, int cost) {
             chosen[g] = NONE;
             choose(net, table, g + 1, worth, cost);
         }
