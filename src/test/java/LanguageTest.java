@@ -1,6 +1,9 @@
 import java.io.IOException;
 import java.nio.file.Files;
 import java.nio.file.Path;
+import java.util.Set;
+import java.util.TreeSet;
+import java.util.regex.MatchResult;
 import java.util.regex.Matcher;
 import java.util.regex.Pattern;
 
@@ -24,6 +27,8 @@ public final class LanguageTest {
         check.holds("twelve classes at most", Pattern.compile("\\bclass\\s+\\w+").matcher(code).results().count() <= 12);
         checkStaticFields(check, code);
         checkMethods(check, code);
+        checkNames(check, code);
+        checkMaking(check, code);
         check.end();
     }
 
@@ -32,6 +37,27 @@ public final class LanguageTest {
         while (fields.find()) {
             check.holds("final: " + fields.group().trim(), fields.group().contains("static final int"));
         }
+    }
+
+    /** Beside the program's own classes no name of a type stands there but Math, with functions over int and long. */
+    private static void checkNames(Check check, String code) {
+        Set<String> own = new TreeSet<>();
+        Pattern.compile("\\bclass\\s+(\\w+)").matcher(code).results().forEach(found -> own.add(found.group(1)));
+        Pattern.compile("\\b[A-Z]\\w*[a-z]\\w*").matcher(code).results().map(MatchResult::group).distinct()
+            .forEach(name -> check.holds("an own name: " + name, own.contains(name) || name.equals("Math")));
+        Pattern.compile("\\bMath\\.(\\w+)").matcher(code).results().map(found -> found.group(1)).distinct()
+            .forEach(name -> check.holds("Math." + name, name.equals("min") || name.equals("max") || name.equals("abs")));
+    }
+
+    /** Objects and rows are made with the object alone, so that no run of calls fills the room. */
+    private static void checkMaking(Check check, String code) {
+        String methods = code.replaceAll("\n +(private )?final [^\n]*= new [^\n]*;", "")
+            .replaceAll("(?s)\n( +)(public )?[A-Z]\\w*\\(\\) \\{.*?\n\\1\\}", "");
+        Matcher making = Pattern.compile("[^\n]*\\bnew\\b[^\n]*").matcher(methods);
+        while (making.find()) {
+            check.holds("made by a call: " + making.group().trim(), false);
+        }
+        check.holds("constructors and fields make them", code.contains("= new ") && methods.length() < code.length());
     }
 
     private static void checkMethods(Check check, String code) {
